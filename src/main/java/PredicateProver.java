@@ -71,7 +71,7 @@ public final class PredicateProver {
         if (kind == NO_EDGE) {
             throw new IllegalArgumentException("the line is no edge");
         }
-        if (program.count == MOST_EDGES) {
+        if (program.isFull()) {
             throw new IllegalStateException("there are 20 edges");
         }
         int number = program.add(kind, line, formula);
@@ -303,7 +303,7 @@ public final class PredicateProver {
                     stack[height] = space.read(state, c - 'x');
                     height++;
                 } else if (isDigit(c)) {
-                    stack[height] = c - '0' & space.mask;
+                    stack[height] = (c - '0') & space.mask;
                     height++;
                 } else if (height >= 2) {
                     height--;
@@ -447,7 +447,11 @@ public final class PredicateProver {
             target = new int[MOST_EDGES][space.states];
         }
 
-        /** The number of the new edge, which a parser has found on the line. */
+        boolean isFull() {
+            return count >= MOST_EDGES;
+        }
+
+        /** The number of the new edge: the line is one, and its term or atom is the formula. */
         int add(int newKind, Line line, Formula formula) {
             int edge = count;
             from[edge] = line.at(0) - 'A';
@@ -491,18 +495,17 @@ public final class PredicateProver {
         /** Groups are numbered by their signatures, the least first. */
         int groupCount = 0;
         final int[] groupOf;
-        /** The least state of a group. */
-        final int[] first;
-        /** The next state of the same group, or -1. */
-        final int[] next;
+        /** All states, group by group: group g has members start[g] .. start[g + 1] - 1. */
+        final int[] member;
+        final int[] start;
         private final int[] groupOfSignature = new int[1 << MOST_PREDICATES];
 
         Groups(Space space) {
             this.space = space;
             signature = new int[space.states];
             groupOf = new int[space.states];
-            first = new int[space.states];
-            next = new int[space.states];
+            member = new int[space.states];
+            start = new int[space.states + 1];
             regroup();
         }
 
@@ -526,23 +529,34 @@ public final class PredicateProver {
             regroup();
         }
 
-        /** Of sets told by the bits of each state's row element: those that split. */
+        int signatureOf(int group) {
+            return signature[member[start[group]]];
+        }
+
+        /** Bit b of row[state] says whether the state is in set b: the bits of the sets that split. */
         long splitting(long[] row) {
             long bits = 0;
             for (int state = 0; state < space.states; state++) {
-                bits |= row[state] ^ row[first[groupOf[state]]];
+                bits |= row[state] ^ row[member[start[groupOf[state]]]];
             }
             return bits;
         }
 
         private void regroup() {
             numberGroups();
-            Arrays.fill(first, -1);
-            for (int state = space.states - 1; state >= 0; state--) {
-                int group = groupOfSignature[signature[state]];
-                groupOf[state] = group;
-                next[state] = first[group];
-                first[group] = state;
+            Arrays.fill(start, 0);
+            for (int state = 0; state < space.states; state++) {
+                groupOf[state] = groupOfSignature[signature[state]];
+                start[groupOf[state]]++;
+            }
+            for (int group = 1; group <= groupCount; group++) {
+                start[group] += start[group - 1];
+            }
+            // start has the groups' ends now, and each member moves its group's one to the front
+            for (int state = 0; state < space.states; state++) {
+                int group = groupOf[state];
+                start[group]--;
+                member[start[group]] = state;
             }
         }
 
@@ -573,6 +587,7 @@ public final class PredicateProver {
         final int[] parent = new int[MOST_NODES];
         final int[] byEdge = new int[MOST_NODES];
         private final int[] group = new int[MOST_NODES];
+        private final int[] depth = new int[MOST_NODES];
         private final byte[] known;
         private final byte[] reached;
         boolean outOfRoom = false;
@@ -599,7 +614,7 @@ public final class PredicateProver {
             Arrays.fill(known, (byte) 0);
             addNode(0, groups.groupOf[0], -1, -1);
             boolean ended = false;
-            for (int node = 0; node < count && !ended; node++) {
+            for (int node = 0; node < count && node < MOST_NODES && !ended; node++) {
                 for (int edge = 0; edge < program.count && !ended; edge++) {
                     if (program.from[edge] == location[node]) {
                         ended = take(node, edge);
@@ -622,7 +637,7 @@ public final class PredicateProver {
                 }
                 addNode(goal, g, node, edge);
                 if (goal == ERROR_LOCATION) {
-                    tracePath();
+                    tracePath(count - 1);
                     return true;
                 }
             }
@@ -632,9 +647,9 @@ public final class PredicateProver {
         private void markReached(int source, int edge) {
             Arrays.fill(reached, 0, groups.groupCount, (byte) 0);
             int choices = program.choices(edge);
-            for (int state = groups.first[source]; state >= 0; state = groups.next[state]) {
+            for (int i = groups.start[source]; i < groups.start[source + 1]; i++) {
                 for (int input = 0; input < choices; input++) {
-                    int goal = program.step(edge, state, input);
+                    int goal = program.step(edge, groups.member[i], input);
                     if (goal >= 0) {
                         reached[groups.groupOf[goal]] = 1;
                     }
@@ -645,22 +660,20 @@ public final class PredicateProver {
         private void addNode(int newLocation, int newGroup, int from, int edge) {
             location[count] = newLocation;
             group[count] = newGroup;
-            signature[count] = groups.signature[groups.first[newGroup]];
+            signature[count] = groups.signatureOf(newGroup);
             parent[count] = from;
             byEdge[count] = edge;
+            depth[count] = from < 0 ? 0 : depth[from] + 1;
             known[newLocation * space.states + newGroup] = 1;
             count++;
         }
 
-        private void tracePath() {
-            pathLength = 0;
-            for (int node = count - 1; node > 0; node = parent[node]) {
-                pathLength++;
-            }
-            int k = pathLength;
-            for (int node = count - 1; node > 0; node = parent[node]) {
-                k--;
+        private void tracePath(int last) {
+            pathLength = depth[last];
+            int node = last;
+            for (int k = pathLength - 1; k >= 0; k--) {
                 pathEdge[k] = byEdge[node];
+                node = parent[node];
             }
         }
     }
@@ -726,7 +739,6 @@ public final class PredicateProver {
         }
 
         private void collectInputs() {
-            inputCount = 0;
             int state = 0;
             for (int k = 0; k < search.pathLength && state >= 0; k++) {
                 int edge = search.pathEdge[k];

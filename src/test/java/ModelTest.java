@@ -101,7 +101,7 @@ public final class ModelTest {
     }
 
     private void prove(PredicateProver p, Model m) {
-        int fuel = random.nextInt(3) == 0 ? random.nextInt(44) - 1 : 1 + random.nextInt(3);
+        int fuel = random.nextInt(4) == 0 ? random.nextInt(44) - 1 : 1;
         long got = answer(() -> p.prove(fuel));
         long want = answer(() -> m.prove(fuel));
         check.due("prove " + fuel, got, want);
@@ -172,6 +172,25 @@ public final class ModelTest {
         addEdge(p, m, locations.charAt(last) + "B " + atom());
     }
 
+    /** A program as people write them: an input or none, a loop that counts, and a question behind it. */
+    private void addLoop(PredicateProver p, Model m) {
+        String v = random.nextInt(2) == 0 ? "xyz" : random.nextInt(2) == 0 ? "yzx" : "zxy";
+        char a = v.charAt(0);
+        char b = v.charAt(1);
+        char c = v.charAt(2);
+        String other = b + (random.nextInt(3) == 0 ? "?" : ":" + pick("01234567xyz"));
+        addEdge(p, m, "AC " + other);
+        addEdge(p, m, "CD " + a + pick("<#") + pick("1234567" + b));
+        addEdge(p, m, "DE " + a + ":" + a + pick("+-") + pick("123"));
+        addEdge(p, m, "EC " + c + ":" + c + pick("+-^&*") + pick("1234567" + v));
+        if (random.nextInt(2) == 0) {
+            addEdge(p, m, "D" + pick("CEF") + " " + action());
+        }
+        addEdge(p, m, "CF " + a + "=" + pick("1234567" + b));
+        addEdge(p, m, "FG " + action());
+        addEdge(p, m, "GB " + pick("" + a + b + c) + pick("<=#") + pick("01234567xyz"));
+    }
+
     /** Predicates that tell most states apart and loops that come to many of them: many nodes. */
     private void addCrowd(PredicateProver p, Model m) {
         for (int v = 0; v < 3; v++) {
@@ -195,11 +214,13 @@ public final class ModelTest {
         PredicateProver p = new PredicateProver(w);
         Model m = new Model(w);
         String locations = "ACDEFGHIJKL".substring(0, 1 + random.nextInt(11));
-        int kind = random.nextInt(4);
+        int kind = random.nextInt(6);
         if (kind == 0) {
             addScatteredEdges(p, m, locations);
         } else if (kind == 1) {
             addCrowd(p, m);
+        } else if (kind < 4) {
+            addLoop(p, m);
         } else {
             addChain(p, m, locations);
         }

@@ -80,13 +80,15 @@ public final class PromisesTest {
         check.dueThrow("input(-1)", INDEX, () -> p.input(-1));
     }
 
-    /** The predicate's states are just those in which x, y and z, taken together, are in the text's set. */
+    /** The predicate of a prover of width 3 has just the states in which the atom holds. */
     private void dueSet(PredicateProver p, int predicate, String atom) {
         PredicateProver other = new PredicateProver(2);
         addPredicate(other, atom);
+        int same = 0;
         for (int s = 0; s < 512; s++) {
-            check.due("holds(" + predicate + ", " + s + ")", p.holds(predicate, s) ? 1 : 0, other.holds(0, s) ? 1 : 0);
+            same += p.holds(predicate, s) == other.holds(0, s) ? 1 : 0;
         }
+        check.due("states in which predicate " + predicate + " is " + atom, same, 512);
     }
 
     // ---- the promises
@@ -140,7 +142,7 @@ public final class PromisesTest {
 
     private void promise4Edge() {
         String[] wrong = {
-            "", "A", "AC", "AC ", "AC x", "AC  x?", "ACx?", "AM x?", "MA x?", "aC x?", "A@ x?", "AC w?", "AC x??", "AC ?",
+            "", "A", "AC", "AC ", "AC x", "AC  x?", "ACx?", "AC_x?", "AM x?", "MA x?", "aC x?", "A@ x?", "AC w?", "AC x??", "AC ?",
             "AC x:", "AC x:8", "AC x:w", "AC x:y z", "AC x: y", "AC x:y ", "AC x:y+", "AC x:+y", "AC x:-1", "AC x:(y", "AC x:y)",
             "AC x:()", "AC x:12", "AC x:xy", "AC x:y:z", "AC x:y=z", "AC x:y/z", "AC 1:x", "AC x+1:y", "AC x+1?", "AC x<", "AC <x",
             "AC x<y<z", "AC x==y", "AC x<=y", "AC x>y", "AC (x<y)", "AC x<(y", "AC x<y)", "AC x?y", " AC x?", "AC x:(((((1)))))",
@@ -260,6 +262,8 @@ public final class PromisesTest {
         provesBackwards();
         leavesBehind();
         takesDuplicatesOnce();
+        takesInOrder();
+        takesManyAlong();
         fallsBackToBits();
         goesOutOfPredicates();
         goesOutOfNodes();
@@ -301,6 +305,33 @@ public final class PromisesTest {
         check.due("predicates()", p.predicates(), 2);
         dueSet(p, 0, "x=0");
         dueSet(p, 1, "y=7");
+    }
+
+    private void takesInOrder() {
+        PredicateProver p = program(2, "AC x:y+1", "CD x=3", "DB x<2");
+        check.due("prove(1)", p.prove(1), REFINED);
+        check.due("predicates()", p.predicates(), 4);
+        dueSet(p, 0, "x<2");
+        dueSet(p, 1, "x=3");
+        dueSet(p, 2, "y+1<2");
+        dueSet(p, 3, "y=2");
+    }
+
+    /** x and y count from 0 to 56 on the path, so more than 100 sets come to its first edges. */
+    private void takesManyAlong() {
+        PredicateProver p = program(2, "AI z:z+2", "IH z?", "HG z:z+3", "GC z=5", "CD 1=1", "DE x:x+1", "EC x#0", "EF x=0", "FC y:y+1", "CK y=7", "KB z=1");
+        for (int i = 0; i < 6; i++) {
+            addPredicate(p, (i < 3 ? "x" : "y") + "&" + (1 << i % 3) + "#0");
+        }
+        check.due("prove(1)", p.prove(1), REFINED);
+        check.due("length()", p.length(), 4 + 49 * 3 + 7 * 4 + 2);
+        check.due("predicates()", p.predicates(), 10);
+        dueSet(p, 6, "z=1");
+        dueSet(p, 7, "z=5");
+        dueSet(p, 8, "z=6");
+        dueSet(p, 9, "z=2");
+        check.due("the counters make 64 nodes at each of 3 locations", p.prove(1), NO_ROOM);
+        check.due("nodes()", p.nodes(), 200);
     }
 
     /** An input before the atom leaves its set behind, so bits have to tell the states apart. */
@@ -362,6 +393,8 @@ public final class PromisesTest {
         check.dueThrow("path(0)", INDEX, () -> p.path(0));
         check.due("the last one's location", p.node(199, 0), 5);
         check.dueThrow("node(200, 0)", INDEX, () -> p.node(200, 0));
+        p.clear();
+        check.due("room again", p.prove(1), SAFE);
 
         PredicateProver q = crowd("EF x=x");
         check.due("200 nodes without B", q.prove(40), SAFE);
