@@ -59,19 +59,6 @@ public final class ModelTest {
             : text.substring(0, at) + c + text.substring(at + 1);
     }
 
-    /** The answer, or a number of its own for each exception. */
-    private static long answer(Check.Call call) {
-        try {
-            return call.answer();
-        } catch (IllegalStateException e) {
-            return -1001;
-        } catch (IllegalArgumentException e) {
-            return -1002;
-        } catch (IndexOutOfBoundsException e) {
-            return -1003;
-        }
-    }
-
     private void typeLine(PredicateProver p, Model m, String text) {
         for (char c : text.toCharArray()) {
             check.due("type " + c, p.type(c), m.type(c));
@@ -81,7 +68,7 @@ public final class ModelTest {
     private void addEdge(PredicateProver p, Model m, String text) {
         typeLine(p, m, random.nextInt(10) == 0 ? spoiled(text) : text);
         String typed = m.line;
-        check.due("edge " + typed, answer(p::edge), answer(m::edge));
+        check.due("edge " + typed, Bench.answer(p::edge), Bench.answer(m::edge));
         wipeSometimes(p, m);
     }
 
@@ -89,7 +76,7 @@ public final class ModelTest {
         String text = atom();
         typeLine(p, m, random.nextInt(10) == 0 ? spoiled(text) : text);
         String typed = m.line;
-        check.due("predicate " + typed, answer(p::predicate), answer(m::predicate));
+        check.due("predicate " + typed, Bench.answer(p::predicate), Bench.answer(m::predicate));
         wipeSometimes(p, m);
     }
 
@@ -102,8 +89,8 @@ public final class ModelTest {
 
     private void prove(PredicateProver p, Model m) {
         int fuel = random.nextInt(4) == 0 ? random.nextInt(44) - 1 : 1;
-        long got = answer(() -> p.prove(fuel));
-        long want = answer(() -> m.prove(fuel));
+        long got = Bench.answer(() -> p.prove(fuel));
+        long want = Bench.answer(() -> m.prove(fuel));
         check.due("prove " + fuel, got, want);
         if (want >= 0) {
             seen[(int) want]++;
@@ -124,12 +111,12 @@ public final class ModelTest {
         check.due("length", p.length(), length);
         for (int k = -1; k <= length; k++) {
             int at = k;
-            check.due("path " + k, answer(() -> p.path(at)), k < 0 || k >= length ? -1003 : m.path.get(k));
+            check.due("path " + k, Bench.answer(() -> p.path(at)), k < 0 || k >= length ? -1003 : m.path.get(k));
         }
         for (int k = -1; k <= m.inputs.size(); k++) {
             int at = k;
             boolean there = k >= 0 && k < m.inputs.size();
-            check.due("input " + k, answer(() -> p.input(at)), there ? m.inputs.get(k) : -1003);
+            check.due("input " + k, Bench.answer(() -> p.input(at)), there ? m.inputs.get(k) : -1003);
         }
         compareStates(p, m);
     }
@@ -197,7 +184,7 @@ public final class ModelTest {
             for (int bit = 1; bit < 8; bit *= 2) {
                 if (random.nextInt(12) != 0) {
                     typeLine(p, m, "xyz".charAt(v) + "&" + bit + "#0");
-                    check.due("predicate of a bit", answer(p::predicate), answer(m::predicate));
+                    check.due("predicate of a bit", Bench.answer(p::predicate), Bench.answer(m::predicate));
                 }
             }
         }
