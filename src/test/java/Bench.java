@@ -122,14 +122,20 @@ abstract class Bench {
 
     /** Whether the text is an edge. */
     final void dueEdge(String text, boolean is) {
-        PredicateProver p = typed(new PredicateProver(WIDTH_3), text);
+        PredicateProver p = line(text);
         dueRead("edge() of '" + text + "'", p::edge, is);
     }
 
     /** Whether the text can be made a predicate. */
     final void duePredicate(String text, boolean is) {
-        PredicateProver p = typed(new PredicateProver(WIDTH_3), text);
+        PredicateProver p = line(text);
         dueRead("predicate() of '" + text + "'", p::predicate, is);
+    }
+
+    private PredicateProver line(String text) {
+        PredicateProver p = typed(new PredicateProver(WIDTH_3), text);
+        check.due("whether '" + text + "' is a line", text.length() <= 24 ? 1 : 0, 1);
+        return p;
     }
 
     private void dueRead(String call, Check.Call made, boolean is) {

@@ -43,6 +43,15 @@ public final class RoundsTest extends Bench {
         dueSets(WIDTH_1, last, 0, "x=1", "x&y&z#1");
     }
 
+    private void theFirstAndTheLastStateCount() {
+        sentence("Terms: a set SPLITS if there are two states (one of them is state 0, or the last one)");
+        for (String atom : new String[] {"1-x&(1-y)&(1-z)=1", "1-x&(1-y)&(1-z)=0", "x&y&z=1", "x&y&z=0"}) {
+            PredicateProver p = program(WIDTH_1, "AC x:x", "CD " + atom, "DB 1-x&y&z=1");
+            check.due("prove(1) with " + atom, p.prove(1), REFINED);
+            dueSets(WIDTH_1, p, 0, "1-x&y&z=1", atom);
+        }
+    }
+
     private void setsOfWholeSignaturesDoNotSplit() {
         sentence("Terms: a set SPLITS if there are two states with one signature");
         PredicateProver p = program(WIDTH_2, "AC z:3", "CD x=y", "DB y=2");
@@ -123,6 +132,12 @@ public final class RoundsTest extends Bench {
         check.due("prove(1), where none can take it", none.prove(1), SAFE);
         check.due("nodes()", none.nodes(), 1);
         check.due("predicates()", none.predicates(), 0);
+        PredicateProver zero = program(WIDTH_1, "AC x=x", "CD x:1", "DE y:1", "EF z:1");
+        addPredicate(zero, "1-x&(1-y)&(1-z)=1");
+        addPredicate(zero, "x&y&z=1");
+        check.due("prove(1), where signatures have one state", zero.prove(1), SAFE);
+        dueNode(zero, 1, 2, 1, 0, 0);
+        check.due("nodes()", zero.nodes(), 7);
         PredicateProver other = program(WIDTH_2, "AB x=3");
         addPredicate(other, "x=3");
         check.due("prove(1), where only a state with another signature can", other.prove(1), SAFE);
@@ -265,6 +280,14 @@ public final class RoundsTest extends Bench {
         check.due("prove(1), where the last edge can't be taken", q.prove(1), REFINED);
         PredicateProver r = program(WIDTH_2, "AC x=1", "CB x=1");
         check.due("prove(1), where the first edge can't be taken", r.prove(1), REFINED);
+        sentence("Terms: the path is TRUE if a run can take its edges (whatever an earlier path could)");
+        PredicateProver other = program(WIDTH_2, "AC x=x", "CB x=0");
+        check.due("prove(1)", other.prove(1), UNSAFE);
+        addEdge(other, "AB x=1");
+        check.due("prove(1), where a shorter path is not true", other.prove(1), REFINED);
+        duePath(other, 2);
+        check.due("prove(1)", other.prove(1), UNSAFE);
+        duePath(other, 0, 1);
         sentence("Terms: the path is TRUE if a run can take its edges (from another state than 0 does not count)");
         PredicateProver s = program(WIDTH_2, "AC x=2", "CB x*x=0");
         check.due("prove(1)", s.prove(1), REFINED);
@@ -330,6 +353,17 @@ public final class RoundsTest extends Bench {
         dueSets(WIDTH_2, q, 0, "x=3", "y=2", "x=2", "x<1");
     }
 
+    private void eachRoundTakesItsOwnSets() {
+        sentence("Terms: sets are TAKEN ALONG, none at the beginning (none of the round before)");
+        PredicateProver p = program(WIDTH_2, "AB x=3", "AC x:x+1", "CB y=1");
+        check.due("prove(1)", p.prove(1), REFINED);
+        dueSets(WIDTH_2, p, 0, "x=3");
+        check.due("prove(1)", p.prove(1), REFINED);
+        duePath(p, 1, 2);
+        dueSets(WIDTH_2, p, 0, "x=3", "y=1");
+        check.due("prove(1)", p.prove(1), SAFE);
+    }
+
     private void atomsGoBehindTheOthers() {
         sentence("Terms: the set of all states in which the atom holds is taken along behind the others");
         PredicateProver p = program(WIDTH_2, "AC x:y+1", "CD x=3", "DB x<2");
@@ -367,6 +401,9 @@ public final class RoundsTest extends Bench {
         PredicateProver q = program(WIDTH_2, "AC z:x+1", "CD x?", "DE z=3", "EB x=x+y");
         check.due("prove(1)", q.prove(1), REFINED);
         dueSets(WIDTH_2, q, 0, "x=x+y", "z=3", "x=2");
+        PredicateProver only = program(WIDTH_2, "AC z:y+1", "CD x?", "DB z=3");
+        check.due("prove(1), where the only one stays", only.prove(1), REFINED);
+        dueSets(WIDTH_2, only, 0, "z=3", "y=2");
         PredicateProver r = program(WIDTH_2, "AC y:z", "CD z?", "DE y=1", "EF z=1", "FB x=1");
         check.due("prove(1), where the middle one of three is left behind", r.prove(1), REFINED);
         dueSets(WIDTH_2, r, 0, "x=1", "z=1", "y=1");
@@ -402,6 +439,44 @@ public final class RoundsTest extends Bench {
         check.due("nodes()", p.nodes(), 200);
     }
 
+    /**
+     * A way with so many atoms on it, counted from its end: z=1 is the first and z=5 the last. Between them x
+     * and y count up to y = turns, with some atoms that always hold at each step and some before the first one.
+     */
+    private static PredicateProver manyAtoms(int turns, int atEachStep, int before) {
+        String places = "ACDEFGHIJKL".substring(0, 1 + before + 1 + atEachStep);
+        char first = places.charAt(before + 1);
+        char last = places.charAt(places.length() - 1);
+        PredicateProver p = tellBits(new PredicateProver(WIDTH_3), "xy");
+        for (int i = 0; i + 1 < places.length(); i++) {
+            addEdge(p, places.substring(i, i + 2) + (i == 0 ? " z=5" : " 1=1"));
+        }
+        addEdge(p, last + "J x=7");
+        addEdge(p, "JL y:y+1");
+        addEdge(p, last + "L x#7");
+        addEdge(p, "L" + first + " x:x+1");
+        addEdge(p, last + "K y=" + turns);
+        addEdge(p, "KB z=1");
+        return p;
+    }
+
+    private void soManySetsAreTakenAlong() {
+        sentence("Terms: each set that is taken along (the 64th, 65th, 128th and 129th of a path)");
+        int[][] cases = {{64, 7, 0, 5}, {65, 7, 0, 6}, {128, 3, 4, 1}, {129, 3, 4, 2}};
+        for (int[] c : cases) {
+            PredicateProver p = manyAtoms(c[1], c[2], c[3]);
+            check.due("prove(1)", p.prove(1), REFINED);
+            int assignments = c[1] * 9;
+            check.due("edges with an atom", p.length() - assignments, c[0]);
+            dueSets(WIDTH_3, p, 6, "z=1", "z=5");
+            p.clear();
+            addEdge(p, "AC x=1");
+            addEdge(p, "CB y:2");
+            check.due("prove(1) of one set after so many", p.prove(1), REFINED);
+            dueSets(WIDTH_3, p, 0, "x=1");
+        }
+    }
+
     // ---- bits
 
     /** x is any number: x * z = 4 can hold for any z but 0, and all bits are needed to tell 0 apart. */
@@ -428,6 +503,13 @@ public final class RoundsTest extends Bench {
         PredicateProver narrow = program(WIDTH_1, "AC x?", "CB x^y&z=1");
         check.due("prove(40) at WIDTH 1", narrow.prove(40), SAFE);
         dueSets(WIDTH_1, narrow, 0, "x^y&z=1", "x=1", "y=1", "z=1");
+    }
+
+    private void bitsDoNotDependOnThePath() {
+        sentence("Terms: of each bit 0, 1, .. , the states in which it is 1 (whatever sets came along the path)");
+        PredicateProver p = program(WIDTH_3, "AC x?", "CD y:y", "DE 0=0", "EF 1=1", "FB x*z=4");
+        check.due("prove(4)", p.prove(4), REFINED);
+        dueSets(WIDTH_3, p, 0, "x*z=4", "x&1#0", "x&2#0", "x&4#0");
     }
 
     private void bitsThatDoNotSplitArePassedOver() {
@@ -520,6 +602,7 @@ public final class RoundsTest extends Bench {
         test.predicatesAreAtMost12();
         test.wholeAndEmptySetsDoNotSplit();
         test.oneStateIsEnoughToSplit();
+        test.theFirstAndTheLastStateCount();
         test.setsOfWholeSignaturesDoNotSplit();
         test.nodeZeroIsA();
         test.edgesAndSignaturesAreTakenInOrder();
@@ -535,12 +618,15 @@ public final class RoundsTest extends Bench {
         test.inputsAreOneForEachInput();
         test.inputsAreTheLeast();
         test.setsAreTakenAlongFromTheEnd();
+        test.eachRoundTakesItsOwnSets();
         test.atomsGoBehindTheOthers();
         test.assignmentsTurnSetsBack();
         test.inputsLeaveSetsBehind();
         test.splittingSetsBecomePredicatesInOrder();
         test.manySetsAreTakenAlong();
+        test.soManySetsAreTakenAlong();
         test.bitsAreTakenInOrder();
+        test.bitsDoNotDependOnThePath();
         test.bitsThatDoNotSplitArePassedOver();
         test.bitsComeOnlyWithoutOthers();
         test.theTwelfthStillComes();
