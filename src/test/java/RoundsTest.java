@@ -443,13 +443,14 @@ public final class RoundsTest extends Bench {
      * A way with so many atoms on it, counted from its end: z=1 is the first and z=5 the last. Between them x
      * and y count up to y = turns, with some atoms that always hold at each step and some before the first one.
      */
-    private static PredicateProver manyAtoms(int turns, int atEachStep, int before) {
-        String places = "ACDEFGHIJKL".substring(0, 1 + before + 1 + atEachStep);
-        char first = places.charAt(before + 1);
+    private static PredicateProver manyAtoms(int turns, int atEachStep, int before, boolean movesZ) {
+        String places = (movesZ ? "A" : "") + (movesZ ? "CDEFGHI" : "ACDEFGHI").substring(0, before + 2 + atEachStep);
+        int start = movesZ ? 1 : 0;
+        char first = places.charAt(start + before + 1);
         char last = places.charAt(places.length() - 1);
         PredicateProver p = tellBits(new PredicateProver(WIDTH_3), "xy");
         for (int i = 0; i + 1 < places.length(); i++) {
-            addEdge(p, places.substring(i, i + 2) + (i == 0 ? " z=5" : " 1=1"));
+            addEdge(p, places.substring(i, i + 2) + (i < start ? " z:z+3" : i == start ? " z=5" : " 1=1"));
         }
         addEdge(p, last + "J x=7");
         addEdge(p, "JL y:y+1");
@@ -460,21 +461,45 @@ public final class RoundsTest extends Bench {
         return p;
     }
 
+    /** How many edges of the path have an atom is seen by its length: a turn has 9 that assign to x or y. */
+    private void dueManyAtoms(int atoms, int turns, int atEachStep, int before) {
+        PredicateProver p = manyAtoms(turns, atEachStep, before, false);
+        check.due("prove(1)", p.prove(1), REFINED);
+        check.due("edges with an atom", p.length() - turns * 9, atoms);
+        dueSets(WIDTH_3, p, 6, "z=1", "z=5");
+        p.clear();
+        addEdge(p, "AC x=1");
+        addEdge(p, "CB y:2");
+        check.due("prove(1) of one set after so many", p.prove(1), REFINED);
+        dueSets(WIDTH_3, p, 0, "x=1");
+    }
+
     private void soManySetsAreTakenAlong() {
         sentence("Terms: each set that is taken along (the 64th, 65th, 128th and 129th of a path)");
-        int[][] cases = {{64, 7, 0, 5}, {65, 7, 0, 6}, {128, 3, 4, 1}, {129, 3, 4, 2}};
-        for (int[] c : cases) {
-            PredicateProver p = manyAtoms(c[1], c[2], c[3]);
+        dueManyAtoms(64, 7, 0, 5);
+        dueManyAtoms(65, 7, 0, 6);
+        dueManyAtoms(128, 3, 4, 1);
+        dueManyAtoms(129, 3, 4, 2);
+        sentence("Terms: in their order (the first and the 64th, the first and the 128th of a path)");
+        PredicateProver[] moved = {manyAtoms(7, 0, 5, true), manyAtoms(3, 4, 1, true)};
+        for (PredicateProver p : moved) {
             check.due("prove(1)", p.prove(1), REFINED);
-            int assignments = c[1] * 9;
-            check.due("edges with an atom", p.length() - assignments, c[0]);
-            dueSets(WIDTH_3, p, 6, "z=1", "z=5");
-            p.clear();
-            addEdge(p, "AC x=1");
-            addEdge(p, "CB y:2");
-            check.due("prove(1) of one set after so many", p.prove(1), REFINED);
-            dueSets(WIDTH_3, p, 0, "x=1");
+            dueSets(WIDTH_3, p, 6, "z=1", "z=5", "z=6", "z=2");
         }
+    }
+
+    /** 63 atoms z=1 and one that needs z=7 come to the first edge, with 12 predicates there, and all of them split then. */
+    private void allSetsSplitAtOnce() {
+        sentence("Terms: after each edge, each set that is taken along and splits then (all 64 of a path)");
+        PredicateProver p = tellBits(program(WIDTH_3, "AC z:z+3", "CB x&z=7"), "x");
+        String places = "CDEFGHIJKL";
+        for (int i = 0; i + 1 < places.length(); i++) {
+            addEdge(p, places.substring(i, i + 2) + " z=1");
+        }
+        addEdge(p, "LC x:x+1");
+        check.due("prove(1)", p.prove(1), NO_ROOM);
+        check.due("edges with an atom", p.length() - 8, 64);
+        dueSets(WIDTH_3, p, 3, "x&z=7", "x+1&z=7", "z=1", "x+2&z=7", "x+3&z=7", "x+4&z=7", "x+5&z=7", "x+6&z=7", "x+7&z=7");
     }
 
     // ---- bits
@@ -625,6 +650,7 @@ public final class RoundsTest extends Bench {
         test.splittingSetsBecomePredicatesInOrder();
         test.manySetsAreTakenAlong();
         test.soManySetsAreTakenAlong();
+        test.allSetsSplitAtOnce();
         test.bitsAreTakenInOrder();
         test.bitsDoNotDependOnThePath();
         test.bitsThatDoNotSplitArePassedOver();
