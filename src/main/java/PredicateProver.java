@@ -506,7 +506,8 @@ public final class PredicateProver {
             groupOf = new int[space.states];
             member = new int[space.states];
             start = new int[space.states + 1];
-            regroup();
+            numberGroups();
+            placeStates();
         }
 
         boolean isFull() {
@@ -516,7 +517,8 @@ public final class PredicateProver {
         void dropPredicates() {
             count = 0;
             Arrays.fill(signature, 0);
-            regroup();
+            numberGroups();
+            placeStates();
         }
 
         /** Puts a state into the predicate that is being made, for which there must be room. */
@@ -526,7 +528,8 @@ public final class PredicateProver {
 
         void endPredicate() {
             count++;
-            regroup();
+            numberGroups();
+            placeStates();
         }
 
         int signatureOf(int group) {
@@ -542,8 +545,22 @@ public final class PredicateProver {
             return bits;
         }
 
-        private void regroup() {
-            numberGroups();
+        private void numberGroups() {
+            int signatures = 1 << count;
+            Arrays.fill(groupOfSignature, 0, signatures, -1);
+            for (int state = 0; state < space.states; state++) {
+                groupOfSignature[signature[state]] = 0;
+            }
+            groupCount = 0;
+            for (int i = 0; i < signatures; i++) {
+                if (groupOfSignature[i] == 0) {
+                    groupOfSignature[i] = groupCount;
+                    groupCount++;
+                }
+            }
+        }
+
+        private void placeStates() {
             Arrays.fill(start, 0);
             for (int state = 0; state < space.states; state++) {
                 groupOf[state] = groupOfSignature[signature[state]];
@@ -557,21 +574,6 @@ public final class PredicateProver {
                 int group = groupOf[state];
                 start[group]--;
                 member[start[group]] = state;
-            }
-        }
-
-        private void numberGroups() {
-            int signatures = 1 << count;
-            Arrays.fill(groupOfSignature, 0, signatures, -1);
-            for (int state = 0; state < space.states; state++) {
-                groupOfSignature[signature[state]] = 0;
-            }
-            groupCount = 0;
-            for (int i = 0; i < signatures; i++) {
-                if (groupOfSignature[i] == 0) {
-                    groupOfSignature[i] = groupCount;
-                    groupCount++;
-                }
             }
         }
     }
